@@ -516,6 +516,8 @@ public final class WeighCourt {
         final Trace trace;
         final Pan left = new Pan();
         final Pan right = new Pan();
+        /** Its MOST, which nothing changes: SEARCHES need it at every STEP. */
+        final int reach;
         boolean taken;
         int used;
         int complaint;
@@ -524,6 +526,7 @@ public final class WeighCourt {
             this.kind = kind;
             this.members = members;
             this.trace = trace;
+            reach = most();
         }
 
         Pan panOf(int side) {
@@ -614,8 +617,15 @@ public final class WeighCourt {
             return d >= -1 && d <= 1 ? 0 : plainTells(d);
         }
 
-        int most() {
-            return kind == QUEUE ? queueMost() : mostAlone();
+        private int most() {
+            if (kind != QUEUE) return mostAlone();
+            trace.note(26);
+            int greatest = 0;
+            for (Balance member : members) {
+                if (member.taken) return NONE;
+                greatest = Math.max(greatest, member.mostAlone());
+            }
+            return greatest;
         }
 
         private int mostAlone() {
@@ -642,18 +652,15 @@ public final class WeighCourt {
             return scaleMost() / 2;
         }
 
-        private int queueMost() {
-            trace.note(26);
-            int greatest = 0;
+        private int cost() {
+            if (kind != QUEUE) return costAlone();
+            trace.note(36);
+            int together = 0;
             for (Balance member : members) {
                 if (member.taken) return NONE;
-                greatest = Math.max(greatest, member.mostAlone());
+                together += member.costAlone();
             }
-            return greatest;
-        }
-
-        private int cost() {
-            return kind == QUEUE ? queueCost() : costAlone();
+            return together;
         }
 
         private int costAlone() {
@@ -677,16 +684,6 @@ public final class WeighCourt {
         private int lyingCost() {
             trace.note(35);
             return plainCost() / 2;
-        }
-
-        private int queueCost() {
-            trace.note(36);
-            int together = 0;
-            for (Balance member : members) {
-                if (member.taken) return NONE;
-                together += member.costAlone();
-            }
-            return together;
         }
 
         private int sure() {
@@ -795,9 +792,11 @@ public final class WeighCourt {
             return (int) (heavier[t] >> coin & 1) - (int) (lighter[t] >> coin & 1);
         }
 
+        /** No COIN is in lefts and in rights, so that joined bits count as each for itself. */
         int difference(int t, long lefts, long rights) {
-            int more = Long.bitCount(heavier[t] & lefts) + Long.bitCount(lighter[t] & rights);
-            return more - Long.bitCount(heavier[t] & rights) - Long.bitCount(lighter[t] & lefts);
+            long down = heavier[t] & lefts | lighter[t] & rights;
+            long up = heavier[t] & rights | lighter[t] & lefts;
+            return Long.bitCount(down) - Long.bitCount(up);
         }
 
         boolean exchangeable(int a, int b) {
@@ -1196,7 +1195,7 @@ public final class WeighCourt {
         }
 
         boolean hasTree() {
-            return over && leastFound != NONE;
+            return on != null && over && leastFound != NONE;
         }
 
         /** 0: there are none. */
@@ -1210,7 +1209,7 @@ public final class WeighCourt {
             on = balance;
             firstTurn = truths.weighings;
             mostLies = lies;
-            outcomesOfOne = 2 * balance.most() + 1;
+            outcomesOfOne = 2 * balance.reach + 1;
             over = false;
             rowsAsked = false;
             leastFound = NONE;
@@ -1261,7 +1260,7 @@ public final class WeighCourt {
                 growing.add(-1, question.left);
                 answer(false);
             } else {
-                question.most = weigherAt(level).most();
+                question.most = weigherAt(level).reach;
                 question.weighings.begin(suspects, question.lies);
                 if (question.weighings.advance()) asking = false;
                 else answer(false);
@@ -1361,7 +1360,7 @@ public final class WeighCourt {
             Question question = questions[depth];
             if (question.left < 2) return false;
             if (depth >= DEEPEST || isHopeless(question.left, n)) return nextRowTells(question.left);
-            question.most = weigherAt(depth).most();
+            question.most = weigherAt(depth).reach;
             question.weighings.begin(suspects, question.lies);
             for (int i = 0; i <= whole.size && question.weighings.advance(); i++) {
                 if (!nextRowFits(question)) return false;
@@ -1414,9 +1413,8 @@ public final class WeighCourt {
         }
 
         int sentence(Truths truths, Balance balance, int n) {
-            rowOf = roomFor(rowOf, truths.size);
-            having = roomFor(having, rowsThatMayBe(balance, n));
-            countRows(truths, balance, n);
+            tellRows(truths, balance, n);
+            countRows(truths);
             int alone = 0;
             leastShared = NONE;
             for (int t = truths.size - 1; t >= 0; t--) {
@@ -1431,33 +1429,34 @@ public final class WeighCourt {
             return alone;
         }
 
-        private static int rowsThatMayBe(Balance balance, int n) {
-            int rows = 1;
-            for (int k = 0; k < n; k++) rows *= 2 * balance.weigherAt(k).most() + 1;
-            return rows;
+        /** Each row as one number, with a digit for each WEIGHING. */
+        private void tellRows(Truths truths, Balance balance, int n) {
+            rowOf = roomFor(rowOf, truths.size);
+            Arrays.fill(rowOf, 0);
+            int rowsThatMayBe = 1;
+            for (int k = 0; k < n; k++) {
+                Balance weigher = balance.weigherAt(k);
+                int digits = 2 * weigher.reach + 1;
+                rowsThatMayBe *= digits;
+                for (int t = 0; t < truths.size; t++) {
+                    if (!truths.isLeft(t)) continue;
+                    int told = weigher.tells(truths.difference(t, left[k], right[k]));
+                    rowOf[t] = digits * rowOf[t] + weigher.reach + told;
+                }
+            }
+            having = roomFor(having, rowsThatMayBe);
         }
 
-        private void countRows(Truths truths, Balance balance, int n) {
+        private void countRows(Truths truths) {
             unlikeRows = 0;
             crowd = 0;
             for (int t = 0; t < truths.size; t++) {
                 if (!truths.isLeft(t)) continue;
-                int row = rowNumber(truths, t, balance, n);
-                rowOf[t] = row;
+                int row = rowOf[t];
                 if (having[row] == 0) unlikeRows++;
                 having[row]++;
                 crowd = Math.max(crowd, having[row]);
             }
-        }
-
-        private int rowNumber(Truths truths, int t, Balance balance, int n) {
-            int row = 0;
-            for (int k = 0; k < n; k++) {
-                Balance weigher = balance.weigherAt(k);
-                int most = weigher.most();
-                row = row * (2 * most + 1) + most + weigher.tells(truths.difference(t, left[k], right[k]));
-            }
-            return row;
         }
     }
 }
