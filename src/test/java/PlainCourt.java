@@ -517,7 +517,7 @@ final class PlainCourt {
             }
         }
 
-        private boolean hopeless(Map<Integer, Integer> aCase, int n) {
+        boolean hopeless(Map<Integer, Integer> aCase, int n) {
             return n == 0 || aCase.size() > Math.pow(2 * most + 1, n);
         }
 

@@ -744,8 +744,8 @@ public final class PromisesTest {
         due("23 13 coins", x.search(0, 1), STATE);
         x.coins(12, 2, 2, 1);
         due("23 66 truths", x.search(0, 1), STATE);
-        x.coins(8, 3, 3, 1);
-        due("23 56 truths", x.search(0, 1), 0);
+        x.coins(6, 2, 2, 3);
+        due("23 60 truths", x.search(0, 1), 0);
         load(x, 0, some(0), some(1));
         x.weigh(0, 3);
         due("23 none left", x.search(0, 1), STATE);

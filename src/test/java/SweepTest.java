@@ -1,7 +1,14 @@
+import java.util.ArrayList;
+import java.util.List;
+import java.util.Map;
+import java.util.Random;
+
 /** Every small CHARGE on every KIND: the whole SEARCH, TREE and ROWS must be as PlainCourt has them. */
 public final class SweepTest {
     private static final int MOST_COINS = 5;
+    private static final Random RANDOM = new Random(5);
     private static int wrong = 0;
+    private static int forgedAndHold = 0;
     private static String where = "";
 
     private static void due(String what, long got, long want) {
@@ -19,6 +26,7 @@ public final class SweepTest {
                 }
             }
         }
+        if (forgedAndHold == 0) due("forged rows that hold", 0, 1);
         System.out.println(wrong == 0 ? "all searches are alike" : wrong + " answers are not as due");
         if (wrong != 0) System.exit(1);
     }
@@ -67,6 +75,42 @@ public final class SweepTest {
                 due("check spoilt", court.check(), plain.check());
                 due("mend", court.spoil(i, 1, was), plain.spoil(i, 1, was));
             }
+        }
+        for (int i = 0; i < 12 && plain.rows() > 1; i++) forgedRows(court, plain, i % 3 == 0 ? 1 : 0);
+    }
+
+    /** All ROWS anew, by OUTCOMES of chance: some hold as well, some end too early, some too late. */
+    private static void forgedRows(WeighCourt court, PlainCourt plain, int careless) {
+        List<int[]> forged = new ArrayList<>();
+        forge(plain.hunt, plain.hunt.start, plain.hunt.turn, plain.least() - 1, careless, forged);
+        for (int i = 0; i < plain.rows() && i < forged.size(); i++) {
+            for (int what = 0; what < 2; what++) {
+                int v = forged.get(i)[what];
+                due("forge", court.spoil(i, what, v), plain.spoil(i, what, v));
+            }
+        }
+        int holds = plain.check();
+        due("check forged", court.check(), holds);
+        if (holds == 1) forgedAndHold++;
+    }
+
+    private static void forge(PlainCourt.Hunt hunt, Map<Integer, Integer> aCase, int k, int n, int careless, List<int[]> rows) {
+        if (rows.size() > 700 || aCase.size() < 2) return;
+        if (hunt.hopeless(aCase, n)) {
+            rows.add(new int[] {-1, aCase.size()});
+            return;
+        }
+        int number = 0;
+        int reach = hunt.on.atTurn(k).mostQuietly();
+        for (PlainCourt.Weighing weighing : hunt.weighings(aCase)) {
+            int outcome = 0;
+            for (int tries = 0; tries < 20; tries++) {
+                outcome = RANDOM.nextInt(2 * reach + 1) - reach;
+                int left = hunt.after(aCase, k, weighing, outcome).size();
+                if (left >= 2 || careless == 1 && RANDOM.nextInt(8) == 0) break;
+            }
+            rows.add(new int[] {number++, outcome});
+            forge(hunt, hunt.after(aCase, k, weighing, outcome), k + 1, n - 1, careless, rows);
         }
     }
 }
