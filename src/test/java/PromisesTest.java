@@ -820,18 +820,18 @@ public final class PromisesTest {
         WeighCourt x = new WeighCourt();
         due("24 none", x.goOn(1), STATE);
         due("24 bad ahead of state", x.goOn(0), BAD);
-        x.coins(12, 1, 1, 3);
+        x.coins(4, 1, 1, 3);
         x.balance(0);
         int done = 0;
         int answer = x.search(0, 1);
-        for (int i = 1; answer == 0 && i < 2000; i++) {
+        for (int i = 1; answer == 0 && i < 100; i++) {
             due("24 steps so far", x.count(7), i);
             due("24 not over", x.least(), STATE);
             done = i + 1;
             answer = x.goOn(1);
         }
         due("24 over", answer, 1);
-        due("24 as many one by one as at once", done, 879);
+        due("24 as many one by one as at once", done, 55);
         due("24 least", x.least(), 3);
         due("24 no more", x.goOn(1), STATE);
         due("24 bad", x.goOn(10001), BAD);
@@ -841,8 +841,8 @@ public final class PromisesTest {
         x.search(0, 10000);
         x.search(0, 1);
         due("24 full", x.goOn(9999), FULL);
-        due("24 told", x.count(8), 20881);
-        due("24 goes on", x.goOn(9119), 1);
+        due("24 told", x.count(8), 20057);
+        due("24 goes on", x.goOn(9943), 1);
         due("24 told in all", x.count(8), 30000);
     }
 
