@@ -6,7 +6,8 @@ import java.util.function.ToIntFunction;
 /**
  * What the tests of the document's edges share (below it, as a class without a package can't be
  * imported). A test is one sentence of the document that names a boundary case, in the document's own
- * words and with its promise. Each is made on courts of its own, none of which answers 512 calls.
+ * words and with its promise. Each is made on courts of its own, none of which answers more than 512
+ * calls.
  */
 abstract class Edges {
     static final int NONE = -1000, BAD = -1001, STATE = -1002, FULL = -1003;

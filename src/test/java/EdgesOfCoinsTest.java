@@ -2,6 +2,7 @@
 public final class EdgesOfCoinsTest extends Edges {
     public static void main(String[] args) {
         newObject();
+        manyCalls();
         howManyCoins();
         howManyFalse();
         howManyTruths();
@@ -42,6 +43,25 @@ public final class EdgesOfCoinsTest extends Edges {
                 x.balance(0);
                 due(x.judge(0, n), STATE);
             }
+        });
+    }
+
+    private static void manyCalls() {
+        edge(1, "An object is used for at most 512 calls after it has been made", () -> {
+            WeighCourt x = new WeighCourt();
+            for (int i = 0; i < 512; i++) due(x.coins(20, 0, 3, 3), 9921);
+            WeighCourt y = court(2, 1, 1, 1, 0);
+            load(y, 0, some(0), some(1));
+            // 6 calls are made so far, 2 are made behind these.
+            for (int i = 0; i < 252; i++) {
+                due(y.weigh(0, 1), 1);
+                due(y.undo(), 2);
+            }
+            due(y.wish(0, 4, 0), 252);
+            due(y.count(5), 0);
+            WeighCourt z = court(2, 1, 1, 1, 0);
+            for (int i = 0; i < 509; i++) due(z.unpan(0, 0), NO_PAN);
+            due(z.count(10), 509);
         });
     }
 
