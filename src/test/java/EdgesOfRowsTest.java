@@ -283,6 +283,8 @@ public final class EdgesOfRowsTest extends Edges {
                 0, -1, 0, 0, -1, 4, 1, 0, 0, 1, -1, 2, 1, -1, -1, 2, 2, 1, -1, 2, 3, 0, -1, 2, 4, -1, -1, 2, 5, 1, -1, 2,
                 2, 0, -1, 4, 3, -1, -1, 4, 4, -1, -1, 4, 5, 0, 0, -1, -1, 2, 1, 0, -1, 2, 2, 1, -1, 2, 3, 0, -1, 2, 4, 1, -1, 2,
                 5, 0, -1, 2);
+            // The last of 18 by 0, not -1, comes to a CASE with WEIGHINGS more, and no ROWS are there for them.
+            holds(() -> proved(2, 2, 1, 2, 1, 5), 0, 12, 1, 0, 14, 1, 0, 16, 1, 0);
         });
         edge(33, "if each CASE that they come to has 2 TRUTHS or more LEFT", () -> {
             // Row 22, WEIGHING 1 by 1, leaves one TRUTH, and no ROW stands for it; all others are in their places.

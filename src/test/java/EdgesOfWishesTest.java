@@ -167,6 +167,10 @@ public final class EdgesOfWishesTest extends Edges {
             for (int[] c : costs) {
                 for (int b : some(0, 1, 2, 4)) due(loaded(b, c[0], c[1]).wish(b, 2, 0), c[2]);
             }
+            // The document does not say it: a COIN at two PLACES is taken to lie at both, and counts twice.
+            WeighCourt x = loaded(0, 1, 0);
+            x.put(0, 1, 0, 0);
+            due(x.wish(0, 2, 0), 2);
         });
         edge(18, "(a PAN that is missing has none)", () -> {
             due(kinds().wish(0, 2, 0), 1);
